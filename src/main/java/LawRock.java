@@ -354,7 +354,7 @@ public final class LawRock {
     int heard = 0;
     for (int l = 0; l < lines.size(); l++) {
       Line one = lines.get(l);
-      if (one.section == now % SECTIONS && !one.isDead() && isSaid(l, one, present)) {
+      if (one.section == now % SECTIONS && !one.isDead() && callLine(l, one, present)) {
         heard |= 1 << l;
       }
     }
@@ -382,7 +382,7 @@ public final class LawRock {
     return present;
   }
 
-  private boolean isSaid(int l, Line one, int present) {
+  private boolean callLine(int l, Line one, int present) {
     int w = standingWording(l, present);
     if (w == NONE) {
       one.fallSilent(now);
@@ -1176,7 +1176,6 @@ public final class LawRock {
       at = 0;
       kind = scan.kindAt(0);
       faultKind = 0;
-      faultPlace = NONE;
       codeCount = 0;
       take(Words.MARKS);
       readSum();
@@ -1196,6 +1195,8 @@ public final class LawRock {
       if (kind != Words.TEXT_END) {
         refuse(CANT_STAND);
       }
+      // Nothing steps on behind a fault, so that the token at hand is still the one at fault.
+      faultPlace = faultKind == 0 ? NONE : scan.placeAt(at);
       return faultKind == 0;
     }
 
@@ -1322,10 +1323,7 @@ public final class LawRock {
     }
 
     private void refuse(int fault) {
-      if (faultKind == 0) {
-        faultKind = fault;
-        faultPlace = scan.placeAt(at);
-      }
+      faultKind = faultKind == 0 ? fault : faultKind;
       kind = Words.UNKNOWN;
     }
 
