@@ -663,21 +663,20 @@ public final class LawRock {
     if (what != 0 && what != 1 && !ofPerson) {
       return NONE;
     }
-    if (planner == null) {
-      planner = new Planner();
-    }
-    planner.begin(persons.size());
+    Planner best = planner == null ? new Planner() : planner;
+    planner = best;
+    best.begin(persons.size());
     for (int l = 0; l < lines.size(); l++) {
       if ((set >>> l & 1) != 0) {
-        planner.addLine(l, Math.max(0, m - countHolders(l)));
-        putPrices(l);
+        best.addLine(l, Math.max(0, m - countHolders(l)));
+        putPrices(best, l);
       }
     }
-    planner.solve();
-    return ofPerson ? planner.lessonOf(what - 10) : what == 0 ? planner.cost() : planner.teachings();
+    best.solve();
+    return ofPerson ? best.lessonOf(what - 10) : what == 0 ? best.cost() : best.teachings();
   }
 
-  private void putPrices(int l) {
+  private void putPrices(Planner best, int l) {
     int quarters = 0;
     for (int p = 0; p < persons.size(); p++) {
       Person one = persons.get(p);
@@ -688,7 +687,7 @@ public final class LawRock {
     for (int p = 0; p < persons.size(); p++) {
       Person one = persons.get(p);
       if (one.lives() && !one.knows(l) && quarters != 0) {
-        planner.putPrice(p, (quarters >>> one.quarter & 1) != 0 ? 1 : 3);
+        best.putPrice(p, (quarters >>> one.quarter & 1) != 0 ? 1 : 3);
       }
     }
   }

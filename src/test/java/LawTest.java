@@ -294,10 +294,11 @@ public final class LawTest {
     CHECK.due("p not born by then", x.suit(4, 1, 0, 0, 0, 1), -1);
     CHECK.due("q not born by then", x.suit(1, 4, 0, 0, 0, 1), -1);
     CHECK.due("born in that summer", x.suit(1, 4, 0, 0, 0, 2), 0);
+    CHECK.due("p born in that summer", x.suit(4, 1, 0, 0, 0, 2), 1);
     x.dies(1);
     CHECK.due("p dead", x.suit(1, 0, 0, 0, 0, 1), -1);
     CHECK.due("q dead", x.suit(0, 1, 0, 0, 0, 1), -1);
-    CHECK.due("look(6)", x.look(6), 1);
+    CHECK.due("look(6)", x.look(6), 2);
   }
 
   private static void mostSuits() {

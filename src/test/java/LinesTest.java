@@ -20,6 +20,7 @@ public final class LinesTest {
     silence();
     lateLine();
     lawAsItWas();
+    lastSummer();
     CHECK.close();
   }
 
@@ -455,6 +456,23 @@ public final class LinesTest {
     CHECK.due("said as it came", x.said(0, 6), 0);
     CHECK.due("stood before", x.stood(0, 5), -1);
     CHECK.due("stood then", x.stood(0, 6), 0);
+  }
+
+  private static void lastSummer() {
+    LawRock x = rock(1);
+    x.line(0, true);
+    x.know(0, 0, 2, 9);
+    for (int n = 20; n <= 180; n += 20) {
+      x.summers(20);
+    }
+    x.summers(16);
+    x.know(0, 0, 3, 9);
+    x.summers(3);
+    CHECK.due("said in the last summer but one", x.said(0, 198), 3);
+    CHECK.due("stood then", x.stood(0, 198), 3);
+    CHECK.due("stood before", x.stood(0, 197), 2);
+    CHECK.due("said at NOW", x.said(0, 199), -2);
+    CHECK.due("how often", x.lineOf(0, 6), 67);
   }
 
   private static void lawAsItWas() {

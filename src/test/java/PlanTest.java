@@ -62,6 +62,13 @@ public final class PlanTest {
     x.know(0, 0, 0, 1);
     CHECK.due("m 0", x.plan(1, 0, 0), -1);
     CHECK.due("m 4", x.plan(1, 4, 0), -1);
+    LawRock many = people(1, 0, 0, 0, 0);
+    for (int p = 0; p < 4; p++) {
+      many.know(p, 0, 0, 1);
+    }
+    CHECK.due("m 3 as four have it", many.plan(1, 3, 0), 0);
+    CHECK.due("m 4 as four have it", many.plan(1, 4, 0), -1);
+    CHECK.due("m -1", many.plan(1, -1, 0), -1);
     CHECK.due("a line that is not there", x.plan(33, 1, 0), -1);
     CHECK.due("a set far off", x.plan(1 << 31, 1, 0), -1);
     CHECK.due("what 2", x.plan(1, 1, 2), -1);

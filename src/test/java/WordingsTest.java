@@ -7,6 +7,7 @@ public final class WordingsTest {
     tape();
     wordings();
     mostWordings();
+    cutTexts();
     soundTexts();
     endFaults();
     signFaults();
@@ -79,6 +80,21 @@ public final class WordingsTest {
     CHECK.due("tree of 32 is too many", x.tree(-1, 0), -1);
   }
 
+  private static void cutTexts() {
+    LawRock x = new LawRock();
+    Check.feed(x, "marks 12345;");
+    CHECK.due("end(10)", x.end(10), true);
+    CHECK.due("a text cut within its digits", x.wording(), -1);
+    CHECK.due("its place is the end", x.fault(1), 10);
+    Check.feed(x, "marks 1 when kin=1;");
+    x.end(10);
+    CHECK.due("a text cut within its letters", x.wording(), -1);
+    CHECK.due("its place is theirs", x.fault(1), 8);
+    Check.feed(x, "marks 1;%");
+    x.end(8);
+    CHECK.due("what was cut off does not count", x.wording(), 0);
+  }
+
   private static void soundTexts() {
     String[] sound = {"marks 0;", "marks1;", "marks\n1\n;", "marks harm+witnesses-years*kin/1;", "marks age;", "marks line 23;",
         "marks line 0023/9999;", "marks 9999;", "marks 0000;", "marks 1 when 1=1;", "marks 1 unless 1<2;",
@@ -109,6 +125,12 @@ public final class WordingsTest {
     CHECK.fault("markss 1;", 1, 0);
     CHECK.fault("marksX 1;", 1, 0);
     CHECK.fault("marks1x;", 1, 6);
+    for (char letter : new char[] {'a', 'z', 'A', 'Z'}) {
+      CHECK.fault("marks" + letter + " 1;", 1, 0);
+    }
+    for (char sign : new char[] {'@', '[', '`', '{', '/', ':', 0, 11, 31, 127, 255}) {
+      CHECK.fault("marks" + sign + " 1;", 1, 5);
+    }
     CHECK.fault("marks 1 2;", 1, 8);
     CHECK.fault("marks +1;", 1, 6);
     CHECK.fault("marks (1);", 1, 6);
