@@ -1093,9 +1093,11 @@ public final class LawRock {
     void scan(char[] text, int newLength) {
       count = 0;
       length = Math.max(0, Math.min(newLength, text.length));
-      int at = 0;
-      while (at < length) {
-        at = Words.isBlank(text[at]) ? at + 1 : scanToken(text, at);
+      int behind = 0;
+      for (int at = 0; at < length; at++) {
+        if (at >= behind) {
+          behind = Words.isBlank(text[at]) ? at + 1 : scanToken(text, at);
+        }
       }
     }
 

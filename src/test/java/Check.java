@@ -3,6 +3,7 @@ final class Check {
   private final String name;
   private int answers = 0;
   private int wrong = 0;
+  private String about = "";
 
   Check(String name) {
     this.name = name;
@@ -12,8 +13,17 @@ final class Check {
     answers++;
     if (got != want) {
       wrong++;
-      System.out.println(name + ": " + call + " answered " + got + ", due is " + want);
+      System.out.println(name + ": " + about + call + " answered " + got + ", due is " + want);
     }
+  }
+
+  /** What stands ahead of each call that is told as wrong. */
+  void about(String text) {
+    about = text;
+  }
+
+  int answers() {
+    return answers;
   }
 
   void due(String call, boolean got, boolean want) {
