@@ -444,6 +444,10 @@ final class PersonEdges {
     c.due("without any wording()", x.fault(1), -1);
     x.wording();
     c.due("of the empty TAPE", x.fault(1), 0);
+    Check.wording(x, "   ");
+    c.due("of blanks alone", x.fault(1), 3);
+    x.wording();
+    c.due("of the empty TAPE, where blanks were", x.fault(1), 0);
     Check.wording(x, "marks line 24;");
     c.due("of FAULT 2", x.fault(1), 11);
     Check.wording(x, "marks 1;");

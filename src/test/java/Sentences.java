@@ -33,6 +33,10 @@ final class Sentences {
   }
 
   private static String read() {
+    if (!Files.isReadable(DOCUMENT)) {
+      System.out.println("no " + DOCUMENT + " here: the tests run, but the quotes are not looked up");
+      return "";
+    }
     try {
       return Files.readString(DOCUMENT);
     } catch (IOException e) {
@@ -50,20 +54,30 @@ final class Sentences {
   /** The sentences that are tested next are of this part. */
   void in(String heading) {
     part = heading;
-    check.due("the document has a part " + heading, parts.containsKey(heading), true);
+    if (!parts.isEmpty()) {
+      check.due("the document has a part " + heading, parts.containsKey(heading), true);
+    }
   }
 
   /** Runs the test of a sentence, or of a part of one, that stands in the document as it is quoted. */
   void test(String quote, Consumer<Check> test) {
-    int at = parts.get(part).indexOf(quote);
-    check.due(part + " says \"" + quote + "\"", at >= 0, true);
     check.due(part + " \"" + quote + "\" is tested once", quotes.add(part + quote), true);
-    quoted.get(part).set(Math.max(at, 0), Math.max(at, 0) + quote.length());
+    if (!parts.isEmpty()) {
+      lookUp(quote);
+    }
     int before = check.answers();
     check.about(part + " \"" + quote + "\" ");
     test.accept(check);
     check.about("");
     check.due(part + " \"" + quote + "\" asks for an answer", check.answers() > before, true);
+  }
+
+  private void lookUp(String quote) {
+    int at = parts.getOrDefault(part, "").indexOf(quote);
+    check.due(part + " says \"" + quote + "\"", at >= 0, true);
+    if (at >= 0) {
+      quoted.get(part).set(at, at + quote.length());
+    }
   }
 
   /** Tells each word of the document that no test has quoted. */
