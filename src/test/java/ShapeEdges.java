@@ -57,6 +57,15 @@ final class ShapeEdges {
     c.due("9999 and 0 are one change", far("marks 9999;", "marks 0;"), 1);
     c.due("blanks", far("marks 1+harm;", "marks  1\n +\n\nharm ;"), 0);
     c.due("line 07 and line 7", far("marks line 07;", "marks line 7;"), 0);
+    int unlike = 0;
+    for (int n = 0; n <= 9999; n += 31) {
+      LawRock x = wordings("marks harm;");
+      for (int i = 0; i < 31; i++) {
+        int w = Check.wording(x, "marks " + Math.min(n + i, 9999) + ";");
+        unlike += x.far(0, w);
+      }
+    }
+    c.due("no NUMBER is as a keyword is", unlike, 10013);
   }
 
   private static void changes(Check c) {
