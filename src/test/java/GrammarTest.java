@@ -6,8 +6,9 @@ import java.util.Map;
 import java.util.Set;
 
 /**
- * Every text of a few tokens, and long ones that are thrown, against the grammar of the document held as mere rules:
- * a token can stand where some derivation goes on with it, so that no way of reading is taken for granted.
+ * Every text of a few tokens (one or two of each kind) up to its first fault, and long ones that are thrown, against the
+ * grammar of the document held as mere rules: a token can stand where some derivation goes on with it, so that no way of
+ * reading is taken for granted.
  */
 public final class GrammarTest {
   private static final int TOKENS = 8;
